@@ -1,0 +1,27 @@
+/** Compares answers with those that are due, prints each that is wrong, and ends with 1 if any was. */
+final class Due {
+    private static int wrong = 0;
+    private static int looked = 0;
+
+    private Due() {
+    }
+
+    static void due(String call, long got, long want) {
+        looked++;
+        if (got != want) {
+            wrong++;
+            System.out.println(call + " answered " + got + ", due is " + want);
+        }
+    }
+
+    static void due(String call, boolean got, boolean want) {
+        due(call, got ? 1L : 0L, want ? 1L : 0L);
+    }
+
+    static void finish() {
+        System.out.println(looked + " answers looked at, " + wrong + " wrong");
+        if (wrong != 0 || looked == 0) {
+            System.exit(1);
+        }
+    }
+}
