@@ -67,6 +67,14 @@ final class Files {
         return read(x, file(constants, rest));
     }
 
+    /** For files that must be right, so that a slip in a test is seen. */
+    static void load(ClassFileIndex x, String constants, String rest) {
+        int answer = read(x, constants, rest);
+        if (answer < 0) {
+            throw new IllegalStateException(answer + " for " + constants + " | " + rest);
+        }
+    }
+
     /** What a new object answers to the file. */
     static int readNew(String constants, String rest) {
         return read(new ClassFileIndex(), constants, rest);

@@ -11,7 +11,7 @@ public final class NamesTest {
 
     private static void textsInOrder() {
         ClassFileIndex x = new ClassFileIndex();
-        Files.read(x, "k:3 t:x t:A t:x t: i:7 t:AB", "0 1 0 0 0 0 0");
+        Files.load(x, "k:3 t:x t:A t:x t: i:7 t:AB", "0 1 0 0 0 0 0");
         Due.due("texts()", x.texts(), 4);
         Due.due("classes()", x.classes(), 1);
         Due.due("text 0", x.letter(0, 0), 'x');
@@ -19,19 +19,19 @@ public final class NamesTest {
         Due.due("text 2 is empty", x.letter(2, 0), 0);
         Due.due("text 3", x.letter(3, 1), 'B');
         Due.due("text 4", x.letter(4, 0), -1);
-        Files.read(x, "t: t:AB t:B k:3 t:A t:ABC", "0 4 0 0 0 0 0");
+        Files.load(x, "t: t:AB t:B k:3 t:A t:ABC", "0 4 0 0 0 0 0");
         Due.due("texts()", x.texts(), 6);
         Due.due("classes()", x.classes(), 2);
         Due.due("text 4", x.letter(4, 0), 'B');
         Due.due("text 5", x.letter(5, 2), 'C');
-        Files.read(x, "t:C t:D k:1 t:E", "0 3 0 0 0 0 1");
+        Due.due("refused", Files.read(x, "t:C t:D k:1 t:E", "0 3 0 0 0 0 1"), -1021);
         Due.due("texts() after a refused file", x.texts(), 6);
         Due.due("classes() after a refused file", x.classes(), 2);
     }
 
     private static void letters() {
         ClassFileIndex x = new ClassFileIndex();
-        Files.read(x, "t:abcdefghij k:1 t:! t:~z", "0 2 0 0 0 0 0");
+        Files.load(x, "t:abcdefghij k:1 t:! t:~z", "0 2 0 0 0 0 0");
         for (int i = 0; i < 10; i++) {
             Due.due("letter(0, " + i + ")", x.letter(0, i), 'a' + i);
         }
@@ -54,10 +54,10 @@ public final class NamesTest {
 
     private static void classes() {
         ClassFileIndex x = new ClassFileIndex();
-        Files.read(x, "t:x t:A t:S k:2 k:3", "3 4 5 0 0 0 0");
-        Files.read(x, "t:B k:1 t:A k:3", "0 2 4 0 0 0 0");
-        Files.read(x, "t:C k:1 t:A k:3", "1 2 0 4 1 4 0 0");
-        Files.read(x, "t:D k:1", "2 2 2 0 0 0 0");
+        Files.load(x, "t:x t:A t:S k:2 k:3", "3 4 5 0 0 0 0");
+        Files.load(x, "t:B k:1 t:A k:3", "0 2 4 0 0 0 0");
+        Files.load(x, "t:C k:1 t:A k:3", "1 2 0 4 1 4 0 0");
+        Files.load(x, "t:D k:1", "2 2 2 0 0 0 0");
         int[] names = {1, 3, 4, 5};
         int[] flags = {3, 0, 1, 2};
         int[] supers = {2, 1, -1, 5};
@@ -79,7 +79,7 @@ public final class NamesTest {
             Due.due("flags(" + a + ")", x.flags(a), -1);
             Due.due("superName(" + a + ")", x.superName(a), -1);
         }
-        Files.read(x, "t:S k:1", "0 2 0 0 0 0 0");
+        Files.load(x, "t:S k:1", "0 2 0 0 0 0 0");
         Due.due("find of a super that was missing", x.find(2), 4);
     }
 }

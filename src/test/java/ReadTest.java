@@ -103,6 +103,11 @@ public final class ReadTest {
         refused("k:3 k:9 t:A k:9", "", 6006);
         refused("k:3 k:3 t:A", "", 1010);
         refused("k:9 t:A", "4 1 0", 6004);
+        String eleven = "t:A t: t: t: t: t: t: t: t: t: t: ";
+        right(eleven + "k:1", "0 12 12 12 1 12 1 12 0 0");
+        refused(eleven + "k:13", "", 6027);
+        refused(eleven + "k:1", "0 13", 6029);
+        refused(eleven + "t:", "0 12", 6029);
         readBytes("202 254 2 7 9 2", 3005);
         readBytes("202 254 2 7 9 1 1 32", 5007);
         readBytes("202 254 2 7 9 1 1", 1007);
@@ -206,7 +211,7 @@ public final class ReadTest {
 
     private static void refusedFilesLeaveNothing() {
         ClassFileIndex x = new ClassFileIndex();
-        Files.read(x, "t:A k:1 t:x", "1 2 0 0 0 0 0");
+        Files.load(x, "t:A k:1 t:x", "1 2 0 0 0 0 0");
         Due.due("wrong file", Files.read(x, "t:N k:1 t:y t:z", "1 2 0 0 0 0 0 0"), -8021);
         Due.due("length() after a wrong file", x.length(), 0);
         Due.due("classes() after a wrong file", x.classes(), 1);

@@ -12,7 +12,7 @@ public final class SupertypesTest {
     private static void directAndMissing() {
         ClassFileIndex x = new ClassFileIndex();
         // Texts: A 0, S 1, I 2, J 3, K 4, e 5.
-        Files.read(x, "t:A k:1 t:S k:3 t:I k:5 t:J k:7 t:K k:9 t:e",
+        Files.load(x, "t:A k:1 t:S k:3 t:I k:5 t:J k:7 t:K k:9 t:e",
                 "0 2 4 10 2 6 8 1 10 0 0");
         boolean[] due = {false, true, true, true, false, false, false};
         for (int t = 0; t < due.length; t++) {
@@ -24,7 +24,7 @@ public final class SupertypesTest {
         Due.due("subtype(MAX, 1)", x.subtype(Integer.MAX_VALUE, 1), false);
         Due.due("subtype(0, MAX)", x.subtype(0, Integer.MAX_VALUE), false);
         ClassFileIndex y = new ClassFileIndex();
-        Files.read(y, "t:A k:1", "0 2 0 0 0 0 0");
+        Files.load(y, "t:A k:1", "0 2 0 0 0 0 0");
         Due.due("no super is no text", y.subtype(0, -1), false);
         Due.due("no class is its own supertype", y.subtype(0, 0), false);
         Due.due("subtypeAt(-1, 0)", y.subtypeAt(-1, 0), -1);
@@ -33,14 +33,14 @@ public final class SupertypesTest {
     /** A -> B -> C by super, C -> D by interface; B comes last. */
     private static void fillingGaps() {
         ClassFileIndex x = new ClassFileIndex();
-        Files.read(x, "t:A k:1 t:B k:3", "0 2 4 0 0 0 0");
-        Files.read(x, "t:C k:1 t:D k:3", "0 2 0 0 1 4 0 0");
+        Files.load(x, "t:A k:1 t:B k:3", "0 2 4 0 0 0 0");
+        Files.load(x, "t:C k:1 t:D k:3", "0 2 0 0 1 4 0 0");
         Due.due("A under B", x.subtype(0, 1), true);
         Due.due("A under C, B missing", x.subtype(0, 2), false);
         Due.due("C under D", x.subtype(1, 3), true);
         Due.due("D, k 0", x.subtypeAt(3, 0), 1);
         Due.due("D, k 1", x.subtypeAt(3, 1), -1);
-        Files.read(x, "t:B k:1 t:C k:3", "0 2 0 0 1 4 0 0");
+        Files.load(x, "t:B k:1 t:C k:3", "0 2 0 0 1 4 0 0");
         Due.due("A under C", x.subtype(0, 2), true);
         Due.due("A under D", x.subtype(0, 3), true);
         Due.due("A not under A", x.subtype(0, 0), false);
@@ -55,11 +55,11 @@ public final class SupertypesTest {
     private static void circles() {
         ClassFileIndex x = new ClassFileIndex();
         // Texts: A 0, B 1, C 2, X 3. A -> B -> C -> A; X -> A, Y -> Y.
-        Files.read(x, "t:A k:1 t:B k:3", "0 2 4 0 0 0 0");
-        Files.read(x, "t:B k:1 t:C k:3", "0 2 0 0 1 4 0 0");
-        Files.read(x, "t:C k:1 t:A k:3", "0 2 4 0 0 0 0");
-        Files.read(x, "t:X k:1 t:A k:3", "0 2 0 0 2 4 4 0 0");
-        Files.read(x, "t:Y k:1", "0 2 2 0 1 2 0 0");
+        Files.load(x, "t:A k:1 t:B k:3", "0 2 4 0 0 0 0");
+        Files.load(x, "t:B k:1 t:C k:3", "0 2 0 0 1 4 0 0");
+        Files.load(x, "t:C k:1 t:A k:3", "0 2 4 0 0 0 0");
+        Files.load(x, "t:X k:1 t:A k:3", "0 2 0 0 2 4 4 0 0");
+        Files.load(x, "t:Y k:1", "0 2 2 0 1 2 0 0");
         for (int c = 0; c < 4; c++) {
             for (int t = 0; t < 3; t++) {
                 Due.due("subtype(" + c + ", " + t + ")", x.subtype(c, t), true);
@@ -81,7 +81,7 @@ public final class SupertypesTest {
         ClassFileIndex x = new ClassFileIndex();
         for (int c = 0; c < 16; c++) {
             String constants = "t:" + (char) ('A' + c) + " k:1 t:" + (char) ('B' + c) + " k:3";
-            Files.read(x, constants, c % 2 == 0 ? "0 2 4 0 0 0 0" : "0 2 0 0 1 4 0 0");
+            Files.load(x, constants, c % 2 == 0 ? "0 2 4 0 0 0 0" : "0 2 0 0 1 4 0 0");
         }
         for (int c = 0; c < 16; c++) {
             for (int t = 0; t <= 16; t++) {
@@ -95,10 +95,10 @@ public final class SupertypesTest {
     private static void listing() {
         ClassFileIndex x = new ClassFileIndex();
         // Texts: A 0, Z 1, B 2, C 3, D 4.
-        Files.read(x, "t:A k:1 t:Z k:3", "0 2 0 0 1 4 0 0");
-        Files.read(x, "t:B k:1", "0 2 0 0 0 0 0");
-        Files.read(x, "t:C k:1 t:A k:3", "0 2 4 0 0 0 0");
-        Files.read(x, "t:D k:1 t:Z k:3 t:B k:5", "0 2 6 0 4 4 6 4 4 0 0");
+        Files.load(x, "t:A k:1 t:Z k:3", "0 2 0 0 1 4 0 0");
+        Files.load(x, "t:B k:1", "0 2 0 0 0 0 0");
+        Files.load(x, "t:C k:1 t:A k:3", "0 2 4 0 0 0 0");
+        Files.load(x, "t:D k:1 t:Z k:3 t:B k:5", "0 2 6 0 4 4 6 4 4 0 0");
         int[] due = {0, 2, 3, -1};
         for (int k = 0; k < due.length; k++) {
             Due.due("Z, k " + k, x.subtypeAt(1, k), due[k]);
