@@ -18,8 +18,18 @@ public final class FaceTest {
     public static void main(String[] args) throws IOException {
         face();
         classesInside();
+        fields(ClassFileIndex.class);
         words();
+        methodLengths();
         Due.finish();
+    }
+
+    private static Set<String> faceNames() {
+        Set<String> names = new HashSet<>();
+        for (String one : FACE) {
+            names.add(one.substring(one.indexOf(' ') + 1, one.indexOf('(')));
+        }
+        return names;
     }
 
     private static void face() {
@@ -33,6 +43,8 @@ public final class FaceTest {
                 seen.add(signature(method));
                 Due.due(method + " is public, not static",
                         (method.getModifiers() & (Modifier.PUBLIC | Modifier.STATIC)) == Modifier.PUBLIC, true);
+            } else {
+                Due.due(method + " has a name of its own", faceNames().contains(method.getName()), false);
             }
         }
         Due.due("methods of the face: " + seen, seen.equals(FACE), true);
@@ -52,10 +64,7 @@ public final class FaceTest {
     }
 
     private static void classesInside() {
-        Set<String> names = new HashSet<>();
-        for (String one : FACE) {
-            names.add(one.substring(one.indexOf(' ') + 1, one.indexOf('(')));
-        }
+        Set<String> names = faceNames();
         Class<?>[] inside = ClassFileIndex.class.getDeclaredClasses();
         Due.due("at most twelve classes", inside.length < 12, true);
         for (Class<?> one : inside) {
@@ -65,22 +74,60 @@ public final class FaceTest {
                 Due.due(method + " has a name of its own", names.contains(method.getName()), false);
                 Due.due(method + " takes at most seven", method.getParameterCount() <= 7, true);
             }
-            for (Field field : one.getDeclaredFields()) {
-                boolean right = !Modifier.isStatic(field.getModifiers()) || Modifier.isFinal(field.getModifiers());
-                Due.due("field " + field, right, true);
-            }
+            fields(one);
         }
     }
 
-    private static void words() throws IOException {
+    /** Static ones are constants, and a class has at most some twenty others. */
+    private static void fields(Class<?> one) {
+        int others = 0;
+        for (Field field : one.getDeclaredFields()) {
+            if (Modifier.isStatic(field.getModifiers())) {
+                boolean constant = Modifier.isFinal(field.getModifiers()) && field.getType() == int.class;
+                Due.due("static field " + field, constant, true);
+            } else {
+                others++;
+            }
+        }
+        Due.due("at most twenty fields in " + one, others <= 20, true);
+    }
+
+    private static String code() throws IOException {
         String source = java.nio.file.Files.readString(Path.of("src/main/java/ClassFileIndex.java"));
-        String code = source.replaceAll("(?s)/\\*.*?\\*/", " ").replaceAll("//[^\n]*", " ");
+        return source.replaceAll("(?s)/\\*.*?\\*/", " ").replaceAll("//[^\n]*", " ");
+    }
+
+    /** A method starts and ends behind four spaces, and behind eight in a class inside. */
+    private static void methodLengths() throws IOException {
+        int methods = 0;
+        int start = 0;
+        String indent = " ".repeat(4);
+        String[] lines = code().split("\n");
+        for (int i = 0; i < lines.length; i++) {
+            if (lines[i].startsWith("    private static final class ")) {
+                indent = " ".repeat(8);
+            } else if (lines[i].equals(indent + "}")) {
+                Due.due("at most sixty lines from " + lines[start].trim(), start > 0 && i - start < 60, true);
+                methods++;
+                start = 0;
+            } else if (lines[i].equals("    }")) {
+                indent = " ".repeat(4);
+            } else if (start == 0 && lines[i].matches(indent + "[A-Za-z].*[{,]")) {
+                start = i;
+            }
+        }
+        Due.due("methods were seen", methods > 50, true);
+    }
+
+    private static void words() throws IOException {
+        String code = code();
         Set<String> words = new HashSet<>(java.util.List.of(code.split("[^A-Za-z_]+")));
         String[] refused = {"throw", "throws", "try", "catch", "finally", "synchronized", "assert", "package",
             "HashMap", "Thread", "Random", "Object", "hashCode", "toString", "var", "goto", "native", "volatile"};
         for (String word : refused) {
             Due.due("the word " + word, words.contains(word), false);
         }
+        Due.due("no texts", code.contains("\""), false);
         Due.due("no lambda", code.contains("->"), false);
         Due.due("no method reference", code.contains("::"), false);
         String[] imports = code.split("import ");
