@@ -613,18 +613,15 @@ public final class ClassFileIndex {
             return k >= 1 && k <= constants && kinds[k] == kind;
         }
 
-        /** What constant k holds, whose number was read at that place. */
-        private int constant(int k, int kind, int at) {
+        /** What the constant holds whose number is read, if it is of that kind. */
+        private int readConstant(int kind) {
+            int at = place;
+            int k = next();
             if (!isConstant(k, kind)) {
                 refuse(WRONG_CONSTANT, at);
                 return NONE;
             }
             return numbers[k];
-        }
-
-        private int readConstant(int kind) {
-            int at = place;
-            return constant(next(), kind, at);
         }
 
         private int readName() {
@@ -637,9 +634,11 @@ public final class ClassFileIndex {
         }
 
         private int readClassOrNone() {
-            int at = place;
-            int k = next();
-            return k == 0 ? NONE : constant(k, CLASS, at);
+            if (place < end && bytes[place] == 0) {
+                place++;
+                return NONE;
+            }
+            return readConstant(CLASS);
         }
 
         private int[] readInterfaces() {
